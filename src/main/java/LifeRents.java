@@ -1093,8 +1093,12 @@ public final class LifeRents {
             return held[holder];
         }
 
+        /** Ahead of BOUGHT nobody holds a PART. */
         private void spreadParts(int rent, int half) {
             Arrays.fill(held, 0);
+            if (half < rents[rent].bought) {
+                return;
+            }
             held[rents[rent].holder] = ALL_PARTS;
             for (int i = 0; i < sales; i++) {
                 if (saleRents[i] == rent && saleHalves[i] <= half) {

@@ -339,7 +339,8 @@ final class PlainOffice {
     }
 
     int held(int rent, int holder, int half) {
-        int parts = rents.get(rent).holder == holder ? 60 : 0;
+        Rent asked = rents.get(rent);
+        int parts = asked.holder == holder && asked.bought <= half ? 60 : 0;
         for (Sale sale : sales) {
             if (sale.rent == rent && sale.half <= half) {
                 parts += (sale.to == holder ? sale.parts : 0) - (sale.from == holder ? sale.parts : 0);

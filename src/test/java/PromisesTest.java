@@ -256,6 +256,11 @@ public final class PromisesTest {
         x.sell(0, 3, 5, 20);
         x.halves(1);
         x.sell(0, 5, 6, 15);
+        due("10: long ahead of BOUGHT", x.parts(0, 3, 0), 0);
+        due("10: just ahead of BOUGHT", x.parts(0, 3, 1), 0);
+        due("10: a stranger ahead of BOUGHT", x.parts(0, 5, 1), 0);
+        due("10: a HOLDER of another rent ahead of BOUGHT", x.parts(1, 4, 1), 0);
+        due("10: BOUGHT", x.parts(0, 3, 2), 60);
         due("10: ahead of the sale", x.parts(0, 3, 3), 60);
         due("10: at its end", x.parts(0, 3, 4), 40);
         due("10: taken", x.parts(0, 5, 4), 20);
