@@ -1,6 +1,7 @@
 /** Counts wrong answers; a test's main ends with close(). */
 final class Check {
     private final String test;
+    private String sentence = "";
     private int asked;
     private int wrong;
 
@@ -8,11 +9,20 @@ final class Check {
         this.test = test;
     }
 
+    /** What the answers that come now are held against: it is told with each that is wrong. */
+    void under(String said) {
+        sentence = said.isEmpty() ? "" : said + ": ";
+    }
+
+    int asked() {
+        return asked;
+    }
+
     void due(String call, long got, long want) {
         asked++;
         if (got != want) {
             wrong++;
-            System.out.println(test + ": " + call + " answered " + got + ", due is " + want);
+            System.out.println(test + ": " + sentence + call + " answered " + got + ", due is " + want);
         }
     }
 
