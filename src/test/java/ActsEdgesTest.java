@@ -389,11 +389,31 @@ public final class ActsEdgesTest {
         bad(c, "cap one;", 1, 4);
         bad(c, "may age 1 t 2;", 1, 10);
         bad(c, "may class 1 and 2;", 1, 12);
+        // Each word with one letter of it changed, doubled or left out.
+        for (String line : new String[] {"may;", "bar;", "price 1;", "lump 1;", "arrears 1;", "wait 1;", "rate 2;", "cap 1;"}) {
+            spelledWrong(c, "", line);
+        }
+        for (String telling : new String[] {"age 1 to 2;", "class 1;", "half 1 to 2;", "joint;", "single;"}) {
+            spelledWrong(c, "may ", telling);
+        }
+        spelledWrong(c, "may age 1 ", "to 2;");
+        spelledWrong(c, "may class 1 ", "or 2;");
         StringBuilder longest = new StringBuilder();
         for (int i = 0; i < 500; i++) {
             longest.append('a');
         }
         bad(c, longest.toString(), 1, 0);
+    }
+
+    private static void spelledWrong(Check c, String before, String text) {
+        good(c, before + text, 1);
+        for (int i = 0; i < text.length() && text.charAt(i) >= 'a'; i++) {
+            String head = before + text.substring(0, i);
+            String tail = text.substring(i + 1);
+            bad(c, head + 'q' + tail, 1, before.length());
+            bad(c, head + text.charAt(i) + text.charAt(i) + tail, 1, before.length());
+            bad(c, head + tail, 1, before.length());
+        }
     }
 
     @Edge(promise = 4, says = "or can't stand there")

@@ -1,3 +1,5 @@
+import java.util.Arrays;
+
 /** NOTES, and what is PAID and OWED by them (promises 11 to 18): each sentence that names a boundary case. */
 public final class BookEdgesTest {
     private static final int NONE = LifeRents.NONE;
@@ -87,6 +89,12 @@ public final class BookEdgesTest {
         c.due("NOTES", x.count(3), 60);
         c.due("no death came", x.dead(0, 79), NONE);
         c.due("the 61st is none", x.holds(60, 1), NONE);
+        // All sixty are gone through.
+        c.due("1 by the 60th", x.paid(0, 1, 0), 1);
+        c.due("2 by none", x.paid(0, 2, 2), 0);
+        c.due("got", x.got(0, 2), 6);
+        c.due("since the 60th", x.risk(0), 6 * 100);
+        c.due("to look into", x.look(0), 0);
     }
 
     @Edge(promise = 11, says = "each TOLD in the HALF that was NOW")
@@ -586,6 +594,14 @@ public final class BookEdgesTest {
         c.due("that is struck, too", x.paid(0, 1, 0), 1);
         c.due("a HALF that has not come", x.paid(0, 2, 0), NONE);
         c.due("the last HALF", x.paid(0, 79, 0), NONE);
+        // A RENT that is BOUGHT when HALVES have been PAID already.
+        x.halves(3);
+        c.due("got by then", x.got(0, 4), 6);
+        x.rent(1, 0, NONE, 5);
+        for (int h = 0; h < 80; h++) {
+            c.due("of a new rent, " + h, x.paid(1, h, 0), NONE);
+        }
+        c.due("it pays nothing yet", x.got(1, 4), 0);
     }
 
     @Edge(promise = 15, says = "NONE: no such RENT, HALF h (0 .. 79), what.")
@@ -656,6 +672,14 @@ public final class BookEdgesTest {
         LifeRents x = shared(1, 30);
         c.due("30 of 60, HOLDER 0", x.got(0, 1), 1);
         c.due("30 of 60, HOLDER 7", x.got(7, 1), 0);
+        for (int holder = 0; holder < 7; holder++) {
+            int[] parts = new int[holder + 2];
+            parts[holder] = 30;
+            parts[holder + 1] = 30;
+            LifeRents z = holder < 6 ? shared(1, parts) : shared(1, Arrays.copyOf(parts, 7));
+            c.due("30 each, HOLDER " + holder, z.got(holder, 1), 1);
+            c.due("30 each, HOLDER " + (holder + 1), z.got(holder + 1, 1), 0);
+        }
         LifeRents y = shared(59, 7, 7, 7, 7, 8, 8, 8);
         // 59 * 8 / 60 = 7 (3 of them, and HOLDER 7), 59 * 7 / 60 = 6 (4): 52, 7 are left.
         for (int holder = 0; holder < 8; holder++) {

@@ -375,6 +375,7 @@ public final class TablesEdgesTest {
         }
         long first = year(year(0, 900 * 400 / 1000, 20), 900 * 500 / 1000, 20);
         c.due("AGES 98 and 89", y.worth(0, 1, 0), old + other - first);
+        c.due("AGES 89 and 98", y.worth(1, 0, 0), old + other - first);
     }
 
     @Edge(promise = 21, says = "NONE: no such ones, both the same, or one is 100 or more.")
@@ -474,6 +475,23 @@ public final class TablesEdgesTest {
         c.due("joint lines say nothing", x.names(9), 3 * 714);
     }
 
+    @Edge(promise = 22, says = "at PRICE: BEST")
+    static void atPriceAlone(Check c) {
+        LifeRents x = old(36, 0, 1, 2);
+        for (int kind = 0; kind < 3; kind++) {
+            sell(x, kind, 1000);
+        }
+        // WORTH 1859 each: a coin for 1 gains 2718, one for 2 gains 1718, one for 3 gains 718.
+        Check.acts(x, "price 3;price 1 class 1;price 2 class 2 half 36 to 36;price 9 joint;cap 1;");
+        int[] due = {0, 2718, 2718, 2718 + 1718, 2718 + 1718, 2718 + 1718, 2718 + 1718 + 718};
+        for (int money = 0; money < due.length; money++) {
+            c.due("money " + money, x.names(money), due[money]);
+        }
+        x.halves(1);
+        c.due("in 37 class 2 is for 3", x.names(4), 2718 + 718);
+        c.due("the last of like ones", x.named(2), 1);
+    }
+
     @Edge(promise = 22, says = "such that MONEY is enough")
     static void moneyIsEnough(Check c) {
         LifeRents x = old(36, 0);
@@ -530,6 +548,10 @@ public final class TablesEdgesTest {
         Check.acts(z, "price 1;cap 2;");
         c.due("500 * 2 - 1000 is 0", z.names(9), 2 * 714);
         c.due("no coin on it", z.named(1), 0);
+        z.sold(0, 9, 525);
+        c.due("all gain 0, whatever was chosen ahead", z.names(9), 0);
+        c.due("no coin on 0", z.named(0), 0);
+        c.due("no coin on 1", z.named(1), 0);
     }
 
     @Edge(promise = 22, says = "then the first by LIVES, the lesser ahead")
@@ -654,6 +676,13 @@ public final class TablesEdgesTest {
         int[] due = {2, 1, 3, 0};
         for (int k = 0; k < 4; k++) {
             c.due("look(" + k + ")", x.look(k), due[k]);
+        }
+        x.rent(0, 0, NONE, 7);
+        x.halves(7);
+        // 7 * 7 for LIFE 0, 5 * 8 for 1 and 3, 6 * 8 for 2.
+        int[] later = {0, 2, 1, 3};
+        for (int k = 0; k < 4; k++) {
+            c.due("later, look(" + k + ")", x.look(k), later[k]);
         }
     }
 
@@ -908,6 +937,16 @@ public final class TablesEdgesTest {
         c.due("alone", y.converts(0), 1);
         y.note(0, 38, true);
         c.due("dead", y.converts(0), 0);
+        // On two by SOLD 857 + 857 - 771 = 943, by OWN 952; on one of them 857 and 952.
+        LifeRents z = old(38, 0, 1);
+        z.rent(0, 0, 1, 1);
+        Check.acts(z, "lump 105;");
+        c.due("105 of 943 for both", z.converts(0), 1);
+        int first = z.note(0, 38, true);
+        c.due("105 of 857 for the second", z.converts(0), 0);
+        z.strike(first);
+        z.note(1, 38, true);
+        c.due("105 of 857 for the first", z.converts(0), 0);
     }
 
     @Edge(promise = 26, says = "LUMP as for a RENT on as many as it was BOUGHT on)")
